@@ -231,6 +231,25 @@ public final class TickFallPromiseTest {
         due("height of the day 12", x.of(0, 2), 1);
     }
 
+    private static void eventKinds() {
+        int[] rates = {13, 10, 10, 10};
+        int[] heights = {200, 3, 200, 200};
+        int[] measured = {15 + 5, 10 + 5, 12 + 3, 12 + 5 + 3000};
+        for (int kind = TickFall.JUMP; kind <= TickFall.SLIP; kind++) {
+            TickFall x = new TickFall();
+            x.clock(10, 200);
+            x.clock(0, 0);
+            x.link(0, 1, 5);
+            x.event(1, kind, 0, 3);
+            x.pass(1);
+            due("rate behind an event of the kind " + kind, x.of(0, 1), rates[kind]);
+            due("height behind an event of the kind " + kind, x.of(0, 2), heights[kind]);
+            due("measured behind an event of the kind " + kind, x.measured(0, 1, false), measured[kind]);
+            due("rate of the other clock", x.of(1, 1), 0);
+            due("height of the other clock", x.of(1, 2), 0);
+        }
+    }
+
     private static void heldRates() {
         TickFall x = new TickFall();
         x.clock(500, 0);
@@ -468,12 +487,13 @@ public final class TickFallPromiseTest {
         TickFall x = still(4);
         x.link(0, 1, 0);
         x.link(1, 2, 0);
-        x.link(2, 3, 0);
+        x.link(2, 3, 7);
         x.link(1, 0, 0);
-        x.link(3, 1, 0);
+        x.link(3, 1, 30);
         x.link(1, 2, 0);
         x.pass(1);
-        due("a ring of other links", x.closes(4, 2, 1, 1), 0);
+        due("a ring of other links", x.closes(4, 2, 1, 1), 37);
+        due("a ring of other links, told otherwise", x.closes(2, 5, 4, 1), 37);
         thrown("no ring: a row", ARGUMENT, () -> x.closes(0, 1, 2, 1));
         thrown("no ring: two by the same clocks", ARGUMENT, () -> x.closes(0, 1, 3, 1));
         thrown("no ring: two by the same clocks, twice the same pair", ARGUMENT, () -> x.closes(1, 5, 2, 1));
@@ -511,6 +531,7 @@ public final class TickFallPromiseTest {
         due("rings at the doubt, with a lower one", x.open(2), 3);
         thrown("the day 0", INDEX, () -> x.open(0));
         thrown("the day 4", INDEX, () -> x.open(4));
+        due("the open rings of a day with fewer rings", x.open(1), 2);
         due("the open rings asked again", x.open(2), 3);
     }
 
@@ -562,6 +583,28 @@ public final class TickFallPromiseTest {
         due("the questions change nothing", x.measured(2, 4, true), -499);
     }
 
+    private static void eightLinks() {
+        TickFall x = still(4);
+        int[][] pairs = {{0, 1}, {1, 2}, {2, 0}, {0, 3}, {1, 3}, {2, 3}, {0, 1}, {0, 3}};
+        for (int[] pair : pairs) {
+            x.link(pair[0], pair[1], 0);
+        }
+        x.event(2, TickFall.SLIP, 7, 1);
+        x.event(3, TickFall.SLIP, 6, -1);
+        x.pass(3);
+        due("no slip of eight links", x.slips(1), 3280);
+        due("no open ring of eight links", x.open(1), 0);
+        due("a slip of the last link", x.slips(2), 3280 + 2187);
+        due("the open rings of the last link", x.open(2), 3);
+        due("slips of the last two links", x.slips(3), 3280 + 2187 - 729);
+        TickFall row = still(3);
+        row.link(0, 1, 50);
+        row.link(1, 2, 50);
+        row.event(1, TickFall.SLIP, 0, 3);
+        row.pass(1);
+        due("links in no ring", row.slips(1), 4);
+    }
+
     private static void mean() {
         TickFall x = new TickFall();
         x.clock(0, 0);
@@ -591,8 +634,19 @@ public final class TickFallPromiseTest {
         x.tell(1, 0, 1);
         x.calibrate(0, 2, 2, -5);
         due("by what is corrected, the lowest link alone", x.mean(2), 15);
+        x.link(1, 0, 1);
+        x.link(3, 0, 0);
+        x.tell(3, 0, 2);
+        x.pass(1);
+        due("the lowest link of each clock", x.mean(3), (30 + 2 * 1200) / 3);
         thrown("the day 0", INDEX, () -> x.mean(0));
-        thrown("the day 3", INDEX, () -> x.mean(3));
+        thrown("the day 4", INDEX, () -> x.mean(4));
+        TickFall turned = still(3);
+        turned.link(2, 0, 12);
+        turned.link(1, 0, 30);
+        turned.link(1, 0, 50);
+        turned.pass(1);
+        due("the lowest links, of the clock 2 first", turned.mean(1), 42 / 3);
         TickFall without = new TickFall();
         without.pass(1);
         thrown("no clock", INDEX, () -> without.mean(1));
@@ -734,6 +788,7 @@ public final class TickFallPromiseTest {
         check("promise 4", TickFallPromiseTest::link);
         check("promise 5", TickFallPromiseTest::event);
         check("promise 5, the order", TickFallPromiseTest::eventOrder);
+        check("promise 5, the kinds", TickFallPromiseTest::eventKinds);
         check("promise 5, held rates", TickFallPromiseTest::heldRates);
         check("promise 6", TickFallPromiseTest::calibrate);
         check("promise 7", TickFallPromiseTest::bounds);
@@ -747,6 +802,7 @@ public final class TickFallPromiseTest {
         check("promise 14", TickFallPromiseTest::closes);
         check("promise 15", TickFallPromiseTest::open);
         check("promise 16", TickFallPromiseTest::slips);
+        check("promise 15 and 16, eight links", TickFallPromiseTest::eightLinks);
         check("promise 17", TickFallPromiseTest::mean);
         check("promise 17 and 19, great numbers", TickFallPromiseTest::meanOfGreatNumbers);
         check("promise 18", TickFallPromiseTest::published);
