@@ -874,6 +874,21 @@ public final class TickFallEdgeTest {
         due("as it would be with a weight", x.published(1, true), 20);
     }
 
+    /** The mean without weights is 0, and not what was published before: the time is steered back to 0. */
+    private static void backToZero() {
+        TickFall x = meanOf(50);
+        x.pass(3);
+        due("published with a weight", x.published(3, false), 50);
+        x.tell(1, 0, 0);
+        due("the mean without weights, of a day that has passed", x.mean(3), 0);
+        x.pass(3);
+        due("the mean without weights", x.mean(4), 0);
+        due("published without weights", x.published(4, false), 30);
+        due("a day later", x.published(5, false), 10);
+        due("two days later", x.published(6, false), 0);
+        due("as it would be", x.published(6, true), 0);
+    }
+
     private static void allClocksOfTheMean() {
         TickFall x = still(6);
         for (int clock = 1; clock < 6; clock++) {
@@ -1073,6 +1088,26 @@ public final class TickFallEdgeTest {
         x.calibrate(0, 0, 500, 5000);
         x.pass(1);
         notNow("without votes and with an open ring", x::adopt);
+        x.bounds(0, 1);
+        notNow("with another doubt", x::adopt);
+        x.vote(0, true);
+        notNow("with a vote again", x::adopt);
+    }
+
+    private static void byTheDoubtNow() {
+        TickFall high = ring(101);
+        TickFall low = ring(100);
+        for (int house = 0; house < 5; house++) {
+            high.vote(house, true);
+            low.vote(house, true);
+        }
+        due("with a ring by 101 and the doubt at first", high.adopt(), false);
+        high.bounds(101, 20);
+        due("with a ring by 101 and the doubt 101", high.adopt(), true);
+        low.bounds(99, 20);
+        due("with a ring by 100 and the doubt 99", low.adopt(), false);
+        low.bounds(100, 20);
+        due("with a ring by 100 and the doubt 100", low.adopt(), true);
     }
 
     private static void check(String words, Test test) {
@@ -1135,6 +1170,7 @@ public final class TickFallEdgeTest {
         check("the sum of each weight times how much the phase is more", TickFallEdgeTest::greatSums);
         check("the lowest such link", TickFallEdgeTest::lowestLinkOfAClock);
         check("0 if that is 0", TickFallEdgeTest::noWeights);
+        check("0 if that is 0, and the mean of the day less that of the day ahead", TickFallEdgeTest::backToZero);
         check("of all clocks", TickFallEdgeTest::allClocksOfTheMean);
         check("for the steered time, if there is no clock", TickFallEdgeTest::noClock);
         check("held to the step, 20 at first", TickFallEdgeTest::heldToTheStep);
@@ -1144,6 +1180,7 @@ public final class TickFallEdgeTest {
         check("the houses 0 to 6, who vote for another second, or not, as at first", TickFallEdgeTest::votesAtFirst);
         check("if 5 houses or more vote for it", TickFallEdgeTest::fiveHouses);
         check("and all rings are closed", TickFallEdgeTest::allRingsClosed);
+        check("closed: not above the doubt", TickFallEdgeTest::byTheDoubtNow);
         check("on the last day", TickFallEdgeTest::onTheLastDay);
         check("if it was adopted, or no day has passed", TickFallEdgeTest::noDayHasPassed);
         check("that stays", TickFallEdgeTest::thatStays);
